@@ -176,8 +176,10 @@ public final class ChangesTest {
         x.line(1);
         x.line(1);
         x.cue(1, 20);
-        Due.is("6: ticks ahead", x.count(3), 4 + 6);
         Due.is("6: shorter", x.move(1, 0), 10000 - 3);
+        x.undo();
+        Due.is("6: ticks ahead", x.count(3), 4 + 6);
+        x.move(1, 0);
         Due.is("6: ticks then", x.count(3), 7);
         Due.is("6: longer", x.move(0, 1), 10003);
         x.set(CreditScroll.SPEED, 1);
