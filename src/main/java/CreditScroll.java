@@ -47,7 +47,7 @@ public final class CreditScroll {
         if (!isWithin(value, LEAST_SETTINGS[setting], MOST_SETTINGS[setting])) {
             return BAD_VALUE;
         }
-        history.record(credits);
+        history.remember(credits);
         int previous = credits.settings[setting];
         credits.settings[setting] = value;
         return previous;
@@ -74,7 +74,7 @@ public final class CreditScroll {
         if (speed != NO_CUE && !isSpeed(speed)) {
             return BAD_VALUE;
         }
-        history.record(credits);
+        history.remember(credits);
         int previous = credits.cues[line];
         credits.cues[line] = speed;
         return previous;
@@ -86,7 +86,7 @@ public final class CreditScroll {
         }
         course.follow();
         int before = course.ticksInAll();
-        history.record(credits);
+        history.remember(credits);
         credits.carry(line, place);
         course.follow();
         return MOVED_BASE + course.ticksInAll() - before;
@@ -96,7 +96,7 @@ public final class CreditScroll {
         if (!credits.holds(line)) {
             return NO_SUCH;
         }
-        history.record(credits);
+        history.remember(credits);
         credits.remove(line);
         return credits.lines;
     }
@@ -109,7 +109,7 @@ public final class CreditScroll {
         if (!credits.holds(first)) {
             return NOT_POSSIBLE;
         }
-        history.record(credits);
+        history.remember(credits);
         for (int i = 0; i < times; i++) {
             credits.rotateNumbers(group);
         }
@@ -124,7 +124,7 @@ public final class CreditScroll {
         if (credits.lines + trial.lines > MOST_LINES) {
             return TOO_MANY;
         }
-        history.record(credits);
+        history.remember(credits);
         credits.addAll(trial);
         pad.length = 0;
         return credits.lines;
@@ -328,7 +328,7 @@ public final class CreditScroll {
         if (!slots.filled[slot]) {
             return NOT_POSSIBLE;
         }
-        history.record(credits);
+        history.remember(credits);
         credits.takeFrom(slots.states[slot]);
         return credits.lines;
     }
@@ -337,7 +337,7 @@ public final class CreditScroll {
         if (credits.lines >= MOST_LINES) {
             return TOO_MANY;
         }
-        history.record(credits);
+        history.remember(credits);
         credits.add(kind, group, number, NO_CUE);
         return credits.lines - 1;
     }
@@ -802,7 +802,7 @@ public final class CreditScroll {
             return true;
         }
 
-        /** Stops ahead of a digit that would be too much: no other character may stand there but those behind a number. */
+        /** Stops ahead of a digit that would be too much: what goes on behind it finds the fault there. */
         private int parseNumber(int least, int most) {
             int value = digit();
             if (value < least) {
@@ -852,7 +852,7 @@ public final class CreditScroll {
             }
         }
 
-        void record(Credits before) {
+        void remember(Credits before) {
             states[(oldest + kept) % MOST_UNDOS].takeFrom(before);
             if (kept < MOST_UNDOS) {
                 kept++;

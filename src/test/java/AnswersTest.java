@@ -3,6 +3,7 @@ public final class AnswersTest {
     public static void main(String[] args) {
         ofTells();
         ofSeen();
+        ofSeenAtCues();
         ofErrors();
         groupTells();
         groupSeenOnce();
@@ -69,6 +70,23 @@ public final class AnswersTest {
         Due.is("10: seen once", y.of(0, 6), 1);
         Due.is("10: first is last", y.of(0, 7), 2);
         Due.is("10: last is first", y.of(0, 8), 2);
+    }
+
+    private static void ofSeenAtCues() {
+        CreditScroll x = new CreditScroll();
+        x.set(CreditScroll.SCREEN, 4);
+        for (int i = 0; i < 6; i++) {
+            x.name(0, i);
+        }
+        x.cue(1, 10);
+        x.cue(4, 30);
+        // 5, 10, 20, 30, 40, 70, 100: what is seen at 10 or 40 is seen at the very time at which the speed changes.
+        int[][] due = {{4, 2, 5}, {3, 3, 5}, {2, 4, 5}, {2, 5, 6}, {1, 6, 6}, {1, 6, 6}};
+        for (int i = 0; i < due.length; i++) {
+            for (int what = 6; what <= 8; what++) {
+                Due.is("10: at cues, of(" + i + ", " + what + ")", x.of(i, what), due[i][what - 6]);
+            }
+        }
     }
 
     private static void ofErrors() {
