@@ -14,6 +14,14 @@ final class Due {
         }
     }
 
+    static void same(String what, String got, String want) {
+        asked++;
+        if (!got.equals(want)) {
+            wrong++;
+            System.out.println(what + " is" + got + "\ndue is" + want);
+        }
+    }
+
     static void end(String test) {
         System.out.println(test + ": " + (asked - wrong) + " of " + asked + " answers are as due");
         if (wrong != 0 || asked == 0) {

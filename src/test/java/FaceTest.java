@@ -32,8 +32,8 @@ public final class FaceTest {
         }
         for (Field field : CreditScroll.class.getDeclaredFields()) {
             note(field, field.getName(), found);
-            boolean settled = Modifier.isFinal(field.getModifiers());
-            Due.is("final: " + field.getName(), settled ? 1 : 0, 1);
+            boolean settled = Modifier.isFinal(field.getModifiers()) || !Modifier.isStatic(field.getModifiers());
+            Due.is("final if it is static: " + field.getName(), settled ? 1 : 0, 1);
         }
         for (Class<?> inside : CreditScroll.class.getDeclaredClasses()) {
             Due.is("static: " + inside.getName(), Modifier.isStatic(inside.getModifiers()) ? 1 : 0, 1);
