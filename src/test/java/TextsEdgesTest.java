@@ -226,9 +226,11 @@ public final class TextsEdgesTest {
 
     private static void putZeroBits() {
         Run.due("18: BAD_VALUE if there is no character", "put(0) = BAD_VALUE", "put('t') = 1", "put(0) = BAD_VALUE");
-        for (int place = 1; place < 64; place++) {
-            Run.due("18: a bit above 8 bits that are 0 is not 0: " + place, "put(" + (1L << place & ~255L) + ") = BAD_VALUE",
-                "put(" + (place < 16 ? 0x740000L : 't' | 1L << place) + ") = BAD_VALUE");
+        for (int bit = 8; bit < 64; bit++) {
+            Run.due("18: the bit " + bit + " above 8 bits that are 0", "put(" + (1L << bit) + ") = BAD_VALUE");
+        }
+        for (int bit = 16; bit < 64; bit++) {
+            Run.due("18: the bit " + bit + " above a character and 8 bits that are 0", "put(" + ('t' | 1L << bit) + ") = BAD_VALUE");
         }
         Run.due("18: the first 8 bits are 0", "put(" + 0x7400L + ") = BAD_VALUE", "put(" + 0x7474747474747400L + ") = BAD_VALUE");
         Run.due("18: the last 8 bits but one are 0", "put(" + 0x7400747474747474L + ") = BAD_VALUE", "put(" + 0x74747474747474L
