@@ -25,11 +25,11 @@ public final class CreditScroll {
     private static final int MOST_UNDOS = 6;
     private static final int SLOTS = 2;
 
-    private final Credits credits = new Credits();
-    private final Course course = new Course(credits);
+    private final Course course = new Course();
+    private final Credits credits = course.credits;
     // A second set for every "what if", so that the credits themselves stay untouched and nothing is made in a call.
-    private final Credits trial = new Credits();
-    private final Course trialCourse = new Course(trial);
+    private final Course trialCourse = new Course();
+    private final Credits trial = trialCourse.credits;
     private final Pad pad = new Pad();
     private final History history = new History();
     private final Slots slots = new Slots();
@@ -497,11 +497,11 @@ public final class CreditScroll {
     }
 
     /**
-     * How the lines of some credits move, in stretches of ticks of one speed each. A height is how many tenths of a
+     * How the lines of its credits move, in stretches of ticks of one speed each. A height is how many tenths of a
      * row all has moved up. What it tells holds for the credits as they were when it followed them last.
      */
     private static final class Course {
-        final Credits credits;
+        final Credits credits = new Credits();
         final int[] tops = new int[MOST_LINES];
         final int[] firsts = new int[MOST_LINES];
         final int[] seen = new int[MOST_LINES];
@@ -511,10 +511,6 @@ public final class CreditScroll {
         final int[] heights = new int[MOST_LINES + 1];
         final int[] speeds = new int[MOST_LINES + 1];
         int stretches;
-
-        Course(Credits credits) {
-            this.credits = credits;
-        }
 
         void follow() {
             layOut();

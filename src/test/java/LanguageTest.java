@@ -1,11 +1,14 @@
 import java.io.IOException;
+import java.lang.reflect.Field;
+import java.lang.reflect.Method;
+import java.lang.reflect.Modifier;
 import java.nio.charset.StandardCharsets;
 import java.nio.file.Files;
 import java.nio.file.Path;
 import java.util.List;
 import java.util.regex.Pattern;
 
-/** Rules of ../shared/LANGUAGE.md that can be read off the text of the class. The property "source" tells where it stands. */
+/** Rules of ../shared/LANGUAGE.md that can be read off the class and its text. The property "source" tells where that stands. */
 public final class LanguageTest {
     private static final List<String> WORDS = List.of("package", "import", "throw", "throws", "try", "catch", "finally",
         "synchronized", "assert", "native", "volatile", "yield", "var", "System\\.(?!arraycopy\\b)\\w+", "\\w+Exact", "java",
@@ -28,7 +31,30 @@ public final class LanguageTest {
             Due.is("2, 5: " + sign, Pattern.compile(sign).matcher(code).results().count(), 0);
         }
         Due.is("1: public classes", Pattern.compile("\\bpublic final class\\b").matcher(code).results().count(), 1);
+        // An object that is made without arguments gets nothing of the one in whose constructor it is made.
+        Due.is("12: arguments of constructors", Pattern.compile("\\bnew \\w+\\([^)]").matcher(code).results().count(), 0);
+        sizes();
         Due.end("LanguageTest");
+    }
+
+    private static void sizes() {
+        Class<?>[] inside = CreditScroll.class.getDeclaredClasses();
+        Due.is("11: some twelve classes", inside.length < 12 ? 1 : 0, 1);
+        size(CreditScroll.class);
+        for (Class<?> one : inside) {
+            size(one);
+        }
+    }
+
+    private static void size(Class<?> one) {
+        int fields = 0;
+        for (Field field : one.getDeclaredFields()) {
+            fields += Modifier.isStatic(field.getModifiers()) ? 0 : 1;
+        }
+        Due.is("11: some twenty fields: " + one.getName(), fields <= 20 ? 1 : 0, 1);
+        for (Method method : one.getDeclaredMethods()) {
+            Due.is("11: at most seven parameters: " + method.getName(), method.getParameterCount() <= 7 ? 1 : 0, 1);
+        }
     }
 
     /** The text without comments, and without what stands in quotes. */
